@@ -103,10 +103,13 @@ public final class FilterPipe {
     }
 
     public int response(int at, int k) {
-        if (at < 0 || at >= chain.length() || k < 0 || k > MOST_TANGENT) {
+        if (k < 0 || k > MOST_TANGENT) {
             return -1;
         }
-        return chain.stage(at) instanceof Section found ? found.responseAt(k) : -1;
+        if (chain.stage(at) instanceof Section found) {
+            return found.responseAt(k);
+        }
+        return -1;
     }
 
     public boolean start() {

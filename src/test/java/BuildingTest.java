@@ -24,6 +24,7 @@ public final class BuildingTest {
         format();
         sourceFormats();
         sinkFormats();
+        bytesThatStay();
         response();
         Check.end();
     }
@@ -340,6 +341,27 @@ public final class BuildingTest {
         Check.due("chain: behind its last byte", most.sinkByte(2 * 2286), -1);
     }
 
+    private static void sameBytes(int bits, int word) {
+        FilterPipe pipe = new FilterPipe(4);
+        pipe.format(bits, false, false);
+        pipe.format(bits, false, true);
+        pipe.start();
+        pipe.bytes(bits / 8, word);
+        Pipes.drain(pipe);
+        for (int i = 0; i < bits / 8; i++) {
+            Check.due("7: " + word + " from " + bits + " bits to " + bits, pipe.sinkByte(i), word >>> 8 * i & 255);
+        }
+    }
+
+    private static void bytesThatStay() {
+        for (int v : new int[] {0, 1, 127, 128, 129, 255}) {
+            sameBytes(8, v);
+            sameBytes(16, v << 8 | v);
+            sameBytes(24, v << 16 | v << 8 | v);
+            sameBytes(32, v << 24 | v << 16 | v << 8);
+        }
+    }
+
     private static void format() {
         FilterPipe pipe = new FilterPipe(1);
         for (int bits : new int[] {8, 16, 24, 32}) {
@@ -468,6 +490,9 @@ public final class BuildingTest {
         responseOf(2147483647, 0, 32767, 32767, 32767, -32766, 16383);
         responseOf(2147483647, 16, 16384, 0, 0, 0, 16383);
         responseOf(0, 96, 1, 1, 1, 1, 1);
+        responseOf(1024, 0, 8192, 0, 0, 0, 0);
+        // 4096 (9413 / 13)^2, just below the greatest int
+        responseOf(2147481151, 0, 9413, 0, 0, -16371, 0);
 
         FilterPipe pipe = new FilterPipe(1);
         pipe.gain(256);

@@ -20,6 +20,7 @@ public final class RoomTest {
         long taken = threads.getThreadAllocatedBytes(thread) - before;
         Check.due("a run of 400 to 512 calls: " + calls, calls >= 400 && calls <= 512, true);
         Check.due("the run made the longest signal", pipe.waiting(3), 2286);
+        System.out.println("bytes taken by a run: " + taken);
         Check.due("bytes taken by a run: " + taken, taken <= MOST_BYTES_OF_A_RUN, true);
         Check.end();
     }
