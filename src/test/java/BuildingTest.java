@@ -1,4 +1,7 @@
-/** Promises 1 to 8: a new object, the stages, the formats, and response. The answers due are worked out by hand. */
+/**
+ * Promises 1 to 8: a new object, the stages, the formats, and response. The answers due are worked out by hand, the
+ * numbers of halfPower and most of response by exact fractions outside the program.
+ */
 public final class BuildingTest {
     private static final int MAX = Pipes.MAX;
     private static final int MIN = Pipes.MIN;
