@@ -1,16 +1,38 @@
+import java.util.List;
+
 /** Compares answers, prints each one that is not due, and ends a test. */
 final class Check {
     private static int compared = 0;
     private static int wrong = 0;
+    private static String sentence = "";
+    private static int comparedBefore = 0;
 
     private Check() {
+    }
+
+    /** The sentence of the document that the next answers are about: one without an answer would test nothing. */
+    static void about(String text) {
+        endSentence();
+        sentence = text;
+        comparedBefore = compared;
+    }
+
+    private static void endSentence() {
+        if (!sentence.isEmpty() && compared == comparedBefore) {
+            wrong++;
+            System.out.println("[" + sentence + "] nothing was compared");
+        }
+    }
+
+    private static void report(String text) {
+        wrong++;
+        System.out.println(sentence.isEmpty() ? text : "[" + sentence + "] " + text);
     }
 
     static void due(String what, long got, long want) {
         compared++;
         if (got != want) {
-            wrong++;
-            System.out.println(what + " answered " + got + ", due is " + want);
+            report(what + " answered " + got + ", due is " + want);
         }
     }
 
@@ -25,11 +47,24 @@ final class Check {
         }
     }
 
+    static void same(String what, List<String> got, List<String> want) {
+        compared++;
+        for (int i = 0; i < Math.max(got.size(), want.size()); i++) {
+            String one = i < got.size() ? got.get(i) : "nothing";
+            String other = i < want.size() ? want.get(i) : "nothing";
+            if (!one.equals(other)) {
+                report(what + ": " + one + ", due is " + other);
+                return;
+            }
+        }
+    }
+
     static int wrongSoFar() {
         return wrong;
     }
 
     static void end() {
+        endSentence();
         System.out.println(compared + " answers compared, " + wrong + " of them not as due");
         if (wrong > 0 || compared == 0) {
             System.exit(1);
