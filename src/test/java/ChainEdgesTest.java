@@ -293,9 +293,17 @@ public final class ChainEdgesTest {
         Check.due("16 high, 32 low", through(16, true, 32, false, 0x0201), 0, 0, 2, 1);
     }
 
+    /** What the word's bytes are as a sample; a gain of 1 lies between, since it clips what is no sample. */
     private static int sampleOf(int bits, boolean high, int word) {
-        int[] bytes = through(bits, high, 24, false, word);
-        return (bytes[0] | bytes[1] << 8 | bytes[2] << 16) << 8 >> 8;
+        FilterPipe pipe = new FilterPipe(1);
+        pipe.format(bits, high, false);
+        pipe.format(24, false, true);
+        pipe.gain(256);
+        pipe.start();
+        pipe.bytes(bits / 8, word);
+        pipe.produce(2);
+        pipe.consume(1);
+        return Pipes.sunk(pipe)[0];
     }
 
     private static void source8() {

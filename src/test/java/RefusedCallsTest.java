@@ -31,12 +31,11 @@ public final class RefusedCallsTest {
     }
 
     private void refused(String call, Twins.Call made) {
-        Twins.refused(phase.name + ": " + call, phase.room, phase.calls, made);
+        Twins.refused(phase.name + ": " + call, phase.room, phase::on, made);
     }
 
     private void isWhereItShould() {
-        FilterPipe pipe = new FilterPipe(phase.room);
-        phase.calls.on(pipe);
+        FilterPipe pipe = phase.reached();
         Check.due(phase.name + ": state()", pipe.state(), phase.producer + 4 * phase.consumer);
         for (int where = 0; where < 4; where++) {
             Check.due(phase.name + ": waiting(" + where + ")", pipe.waiting(where), phase.waiting[where]);
@@ -176,6 +175,6 @@ public final class RefusedCallsTest {
     }
 
     private void onlyAsking() {
-        Twins.unchanged(phase.name + ": asking", phase.room, phase.calls, RefusedCallsTest::ask, -1);
+        Twins.unchanged(phase.name + ": asking", phase.room, phase::on, RefusedCallsTest::ask, -1);
     }
 }

@@ -77,10 +77,9 @@ public final class RunningEdgesTest {
         Check.about("Promise 9: false if it was started before");
         for (Phase phase : Phase.all()) {
             if (phase.isStarted()) {
-                Twins.refused(phase.name, phase.room, phase.calls, pipe -> Twins.of(pipe.start()));
+                Twins.refused(phase.name, phase.room, phase::on, pipe -> Twins.of(pipe.start()));
             } else {
-                FilterPipe pipe = new FilterPipe(phase.room);
-                phase.calls.on(pipe);
+                FilterPipe pipe = phase.reached();
                 Check.due(phase.name + ": start()", pipe.start(), true);
                 Check.due(phase.name + ": start() again", pipe.start(), false);
             }
@@ -91,8 +90,7 @@ public final class RunningEdgesTest {
         Check.about("Promise 10: nothing in source, ring, sink and chain; the source open; both RUNNING");
         for (Phase phase : Phase.all()) {
             if (phase.isStarted()) {
-                FilterPipe pipe = new FilterPipe(phase.room);
-                phase.calls.on(pipe);
+                FilterPipe pipe = phase.reached();
                 Check.due(phase.name + ": restart()", pipe.restart(), true);
                 Check.due(phase.name + ": state()", pipe.state(), 5);
                 waits(pipe, 0, 0, 0, 0);
@@ -106,19 +104,21 @@ public final class RunningEdgesTest {
         }
     }
 
-    /** A second restart must change nothing: the first one has made all as it was right after start(). */
     private static void restartFromEachPhase() {
         Check.about("Promise 10: All becomes as it was right after start(); chain and formats stay");
         for (Phase phase : Phase.all()) {
             if (phase.isStarted()) {
-                Twins.unchanged(phase.name, phase.room, pipe -> {
-                    phase.calls.on(pipe);
-                    pipe.restart();
-                }, pipe -> Twins.of(pipe.restart()), 1);
+                Twins.alike(phase.name, phase.room, pipe -> {
+                    phase.on(pipe);
+                    Check.due(phase.name + ": restart()", pipe.restart(), true);
+                }, pipe -> {
+                    phase.building.on(pipe);
+                    pipe.start();
+                });
             }
         }
         FilterPipe pipe = Pipes.plain();
-        pipe.section(16384, 16384, 16384, -8192, 0);
+        pipe.section(16384, 16384, 16384, -8192, 8000);
         pipe.window(1, 3);
         pipe.resample(3, 2);
         int[] first = Pipes.whole(pipe, 70000, -50000, 30000, 1);
@@ -138,7 +138,7 @@ public final class RunningEdgesTest {
         Check.about("Promise 10: false if it was not started");
         for (Phase phase : Phase.all()) {
             if (!phase.isStarted()) {
-                Twins.refused(phase.name, phase.room, phase.calls, pipe -> Twins.of(pipe.restart()));
+                Twins.refused(phase.name, phase.room, phase::on, pipe -> Twins.of(pipe.restart()));
             }
         }
     }
@@ -180,8 +180,7 @@ public final class RunningEdgesTest {
         Check.about("Promise 11: also when the producer is not RUNNING any more");
         for (Phase phase : Phase.all()) {
             if (phase.producer > Phase.RUNNING && !phase.closed) {
-                FilterPipe pipe = new FilterPipe(phase.room);
-                phase.calls.on(pipe);
+                FilterPipe pipe = phase.reached();
                 int before = pipe.waiting(0);
                 Check.due(phase.name + ": bytes(4, 0)", pipe.bytes(4, 0), 4);
                 Check.due(phase.name + ": they wait", pipe.waiting(0), before + 4);
@@ -202,7 +201,7 @@ public final class RunningEdgesTest {
             for (int count = 1; count <= 4 && phase.isStarted(); count++) {
                 int some = count;
                 Twins.refused(phase.name + ": bytes(" + count + ", 0)", phase.room, pipe -> {
-                    phase.calls.on(pipe);
+                    phase.on(pipe);
                     pipe.close();
                 }, pipe -> pipe.bytes(some, 0));
             }
@@ -246,11 +245,10 @@ public final class RunningEdgesTest {
         Check.about("Promise 12: false if it is closed");
         for (Phase phase : Phase.all()) {
             if (phase.isStarted()) {
-                FilterPipe pipe = new FilterPipe(phase.room);
-                phase.calls.on(pipe);
+                FilterPipe pipe = phase.reached();
                 Check.due(phase.name + ": close()", pipe.close(), !phase.closed);
                 Twins.refused(phase.name + ": close() again", phase.room, p -> {
-                    phase.calls.on(p);
+                    phase.on(p);
                     p.close();
                 }, p -> Twins.of(p.close()));
             }
@@ -285,7 +283,7 @@ public final class RunningEdgesTest {
         Check.about("Promise 13: 0 if n is less than 1");
         for (Phase phase : Phase.all()) {
             for (int n : NO_STEPS) {
-                Twins.refused(phase.name + ": produce(" + n + ")", phase.room, phase.calls, pipe -> pipe.produce(n));
+                Twins.refused(phase.name + ": produce(" + n + ")", phase.room, phase::on, pipe -> pipe.produce(n));
             }
         }
     }
@@ -315,7 +313,7 @@ public final class RunningEdgesTest {
         for (Phase phase : Phase.all()) {
             if (phase.producer != Phase.RUNNING) {
                 for (int n : new int[] {1, 2, MOST}) {
-                    Twins.refused(phase.name + ": produce(" + n + ")", phase.room, phase.calls, pipe -> pipe.produce(n));
+                    Twins.refused(phase.name + ": produce(" + n + ")", phase.room, phase::on, pipe -> pipe.produce(n));
                 }
             }
         }
@@ -340,7 +338,7 @@ public final class RunningEdgesTest {
         Check.about("Promise 14: 0 if n is less than 1");
         for (Phase phase : Phase.all()) {
             for (int n : NO_STEPS) {
-                Twins.refused(phase.name + ": consume(" + n + ")", phase.room, phase.calls, pipe -> pipe.consume(n));
+                Twins.refused(phase.name + ": consume(" + n + ")", phase.room, phase::on, pipe -> pipe.consume(n));
             }
         }
     }
@@ -358,7 +356,7 @@ public final class RunningEdgesTest {
         }
         for (Phase phase : Phase.all()) {
             if (phase.consumer != Phase.RUNNING) {
-                Twins.refused(phase.name + ": consume(1)", phase.room, phase.calls, pipe -> pipe.consume(1));
+                Twins.refused(phase.name + ": consume(1)", phase.room, phase::on, pipe -> pipe.consume(1));
             }
         }
     }
@@ -415,15 +413,14 @@ public final class RunningEdgesTest {
             for (boolean producer : new boolean[] {true, false}) {
                 String what = phase.name + ": interrupt(" + producer + ")";
                 if ((producer ? phase.producer : phase.consumer) == Phase.RUNNING) {
-                    FilterPipe pipe = new FilterPipe(phase.room);
-                    phase.calls.on(pipe);
+                    FilterPipe pipe = phase.reached();
                     Check.due(what, pipe.interrupt(producer), true);
                     int due = producer ? 3 + 4 * phase.consumer : phase.producer + 12;
                     Check.due(what + ": state()", pipe.state(), due);
                     Check.due(what + " again", pipe.interrupt(producer), false);
                     Check.due(what + " again: state()", pipe.state(), due);
                 } else {
-                    Twins.refused(what, phase.room, phase.calls, pipe -> Twins.of(pipe.interrupt(producer)));
+                    Twins.refused(what, phase.room, phase::on, pipe -> Twins.of(pipe.interrupt(producer)));
                 }
             }
         }
@@ -433,8 +430,7 @@ public final class RunningEdgesTest {
         Check.about("Promise 16: The producer's state + 4 * the consumer's");
         boolean[] seen = new boolean[16];
         for (Phase phase : Phase.all()) {
-            FilterPipe pipe = new FilterPipe(phase.room);
-            phase.calls.on(pipe);
+            FilterPipe pipe = phase.reached();
             int due = phase.producer + 4 * phase.consumer;
             Check.due(phase.name, pipe.state(), due);
             seen[due] = true;
@@ -448,8 +444,7 @@ public final class RunningEdgesTest {
     private static void waitingNumbers() {
         Check.about("Promise 17: -1 for other numbers");
         for (Phase phase : Phase.all()) {
-            FilterPipe pipe = new FilterPipe(phase.room);
-            phase.calls.on(pipe);
+            FilterPipe pipe = phase.reached();
             for (int where : new int[] {LEAST, -4, -1, 4, 5, 256, MOST}) {
                 Check.due(phase.name + ": waiting(" + where + ")", pipe.waiting(where), -1);
             }
@@ -496,8 +491,7 @@ public final class RunningEdgesTest {
         Check.about("Promise 18: -1 if there is none: the sink is empty");
         for (Phase phase : Phase.all()) {
             if (phase.waiting[3] == 0) {
-                FilterPipe pipe = new FilterPipe(phase.room);
-                phase.calls.on(pipe);
+                FilterPipe pipe = phase.reached();
                 for (int i : new int[] {LEAST, -1, 0, 1, MOST}) {
                     Check.due(phase.name + ": sinkByte(" + i + ")", pipe.sinkByte(i), -1);
                 }

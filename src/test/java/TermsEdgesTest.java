@@ -229,10 +229,12 @@ public final class TermsEdgesTest {
         Check.due("3, 4", Pipes.live(resampler(3, 4), -6), -2);
     }
 
+    /** The samples that these words are; a gain of 1 lies between, since it clips what is no sample. */
     private static int[] read(int bits, int... words) {
         FilterPipe pipe = new FilterPipe(12);
         pipe.format(bits, false, false);
         pipe.format(24, false, true);
+        pipe.gain(256);
         pipe.start();
         for (int word : words) {
             pipe.bytes(bits / 8, word);
